@@ -603,6 +603,14 @@ public final class PromisesTest {
             x.lose(0);
             Check.same("without two", x.agree(0), 0);
         }
+        // All words are 0 here, so a parity is left out only for the drive that misses the stripe.
+        for (int d = 0; d < 5; d++) {
+            DriveRing zero = new DriveRing(5, 1);
+            zero.lose(d);
+            Check.same("zeros without a drive", zero.agree(0), 2);
+            zero.lose((d + 2) % 5);
+            Check.same("zeros without two", zero.agree(0), 0);
+        }
         // Without drive 4 two parities are whole: the first of drive 3 and the second of drive 0.
         DriveRing x = filled(5, 1);
         x.cut(1);
