@@ -6,17 +6,34 @@ final class Check {
     static final long NO_SUCH = 1L << 40;
     static final long OFF = 1L << 41;
 
+    private static final int MOST_PRINTED = 50;
+
     private static int wrong = 0;
+    private static int checks = 0;
+    private static String sentence = "";
 
     private Check() {
     }
 
+    /** Runs the test of one sentence of the document, whose words stand before what it prints. */
+    static void sentence(String words, Runnable test) {
+        sentence = "[" + words + "] ";
+        int before = checks;
+        try {
+            test.run();
+        } catch (RuntimeException e) {
+            fail("threw " + e);
+        }
+        if (checks == before) {
+            fail("nothing was checked");
+        }
+        sentence = "";
+    }
+
     static void same(String what, long got, long want) {
+        checks++;
         if (got != want) {
-            wrong++;
-            if (wrong <= 50) {
-                System.out.println(what + " answered " + got + ", due is " + want);
-            }
+            fail(what + " answered " + got + ", due is " + want);
         }
     }
 
@@ -42,6 +59,13 @@ final class Check {
         System.out.println(wrong == 0 ? "all answers are as due" : wrong + " answers are not as due");
         if (wrong != 0) {
             System.exit(1);
+        }
+    }
+
+    private static void fail(String what) {
+        wrong++;
+        if (wrong <= MOST_PRINTED) {
+            System.out.println(sentence + what);
         }
     }
 }
