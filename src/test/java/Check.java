@@ -6,9 +6,11 @@ final class Check {
     static final long NO_SUCH = 1L << 40;
     static final long OFF = 1L << 41;
 
-    private static final int MOST_PRINTED = 50;
+    /** Of one sentence, or of what is tested outside of any. */
+    private static final int MOST_PRINTED = 20;
 
     private static int wrong = 0;
+    private static int printed = 0;
     private static int checks = 0;
     private static String sentence = "";
 
@@ -18,6 +20,7 @@ final class Check {
     /** Runs the test of one sentence of the document, whose words stand before what it prints. */
     static void sentence(String words, Runnable test) {
         sentence = "[" + words + "] ";
+        printed = 0;
         int before = checks;
         try {
             test.run();
@@ -64,7 +67,8 @@ final class Check {
 
     private static void fail(String what) {
         wrong++;
-        if (wrong <= MOST_PRINTED) {
+        printed++;
+        if (printed <= MOST_PRINTED) {
             System.out.println(sentence + what);
         }
     }

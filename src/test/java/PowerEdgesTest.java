@@ -176,7 +176,7 @@ public final class PowerEdgesTest {
 
     private static void parities() {
         for (int p : Ring.SIZES) {
-            for (int b = 0; b < p * (p - 2); b += p - 1) {
+            for (int b = 0; b < p * (p - 2); b++) {
                 for (int n = 0; n < 3; n++) {
                     Ring r = Ring.filled(p, 1);
                     r.cut(n);

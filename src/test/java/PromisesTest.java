@@ -1,4 +1,4 @@
-/** Each promise by itself: ordinary inputs, the edges the document names, and wrong inputs. */
+/** Each promise by itself, in ordinary use; the EdgesTests have its sentences one by one. */
 public final class PromisesTest {
     private static final int[] WRONG = {-1, Integer.MIN_VALUE, Integer.MAX_VALUE};
     private static final int[] SIZES = {5, 7, 11, 13};
